@@ -537,6 +537,7 @@ public final class BarCutting {
     private static final class Track {
         private static final int MOST_STEPS = 2 * MOST_LEGS - 1;
         private static final int U_STEP_IN_DIAMETERS = 3;
+        private static final long TOO_FAR = 1L << 60;
 
         final int[] fromX = new int[MOST_STEPS];
         final int[] fromY = new int[MOST_STEPS];
@@ -594,7 +595,7 @@ public final class BarCutting {
 
         /** The least square, seen from above, of the distance of a leg to one of another track. */
         long leastSquareTo(Track other) {
-            long least = Long.MAX_VALUE / 8;
+            long least = TOO_FAR;
             for (int i = 0; i < steps; i++) {
                 for (int j = 0; j < other.steps; j++) {
                     if (isLeg[i] && other.isLeg[j]) {
@@ -781,8 +782,8 @@ public final class BarCutting {
      * prefers them, so that only a way of less cost takes the place of the one found before.
      *
      * <p>A row of pieces is a set of bits, the first piece being the highest: then of two rows the
-     * greater number is the one that comes first. The cost of a way is the length of its bars and,
-     * in the low bits, their number.
+     * greater number is the one that comes first, and (row - 1) & set is the next lesser row of a
+     * set. The cost of a way is the length of its bars and, in the low bits, their number.
      */
     private static final class LeastWaste {
         private static final int SETS = 1 << MOST_NODES;
@@ -905,7 +906,7 @@ public final class BarCutting {
                     return false;
                 }
                 for (int piece = from; piece < plan.pieces; piece++) {
-                    if ((bestRowOfBar[i] >> (plan.pieces - 1 - piece) & 1) == 1) {
+                    if (((bestRowOfBar[i] >> (plan.pieces - 1 - piece)) & 1) == 1) {
                         plan.putPiece(piece, bar);
                     }
                 }

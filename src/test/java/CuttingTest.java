@@ -19,6 +19,8 @@ public final class CuttingTest {
         whatIsCutStays();
         preferences();
         firstFit();
+        eightBars();
+        anotherRun();
         mostPieces();
         randomLists(1, 3000, 5, 6);
         randomLists(2, 400, 8, 30);
@@ -286,6 +288,33 @@ public final class CuttingTest {
         dueBars(lost, 0, "10/70: 0 3; 10/70: 1 2");
         Maker.line(lost, 0, 10, 1, 1);
         CHECK.due("no room for the last", lost.run(0), -1);
+    }
+
+    private static void eightBars() {
+        BarCutting x = straights(10, 5, 60);
+        Maker.line(x, 0, 10, 3, 51);
+        x.stock(10, 100, 3);
+        x.stock(10, 99, 3);
+        x.stock(10, 98, 2);
+        dueBars(x, 8, "10/100: 0; 10/100: 0; 10/100: 0; 10/99: 0; 10/99: 0; 10/99: 1; 10/98: 1; 10/98: 1");
+        CHECK.due("proved", x.proved(), true);
+    }
+
+    private static void anotherRun() {
+        BarCutting x = straights(10, 5, 60);
+        x.stock(10, 100, 5);
+        for (int nodes = 0; nodes <= 8; nodes += 8) {
+            x.leg(0, 0, 60);
+            CHECK.due("five bars", x.run(nodes), 5);
+            CHECK.due("their length", x.loss(1), 500);
+            x.leg(0, 0, 20);
+            CHECK.due("one bar", x.run(nodes), 1);
+            CHECK.due("its length", x.loss(1), 100);
+            CHECK.due("what is left of it", x.loss(0), 0);
+            CHECK.due("no second bar", x.pattern(1, 0), -1);
+            CHECK.due("run again", x.run(nodes), 1);
+            CHECK.due("its pieces", x.pattern(0, 2), 5);
+        }
     }
 
     private static void mostPieces() {

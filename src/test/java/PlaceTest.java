@@ -14,6 +14,7 @@ public final class PlaceTest {
         wrongClashes();
         stepsAsideDoNotClash();
         farApart();
+        longTracksLeaveNothing();
         clashesAgainstPoints();
         CHECK.end();
     }
@@ -81,6 +82,9 @@ public final class PlaceTest {
         CHECK.due("no leg told", x.command(line, 0), -1);
         x.leg(line, 0, 50);
         CHECK.due("one leg told", x.command(line, 0), -1);
+        int last = x.bar(0, 10, 1);
+        x.leg(last, 1, 50);
+        CHECK.due("the last leg told alone", x.command(last, 2), -1);
         x.leg(line, 1, 60);
         CHECK.due("all told", x.command(line, 0), 50);
         CHECK.due("command(0, -1)", x.command(line, -1), -1);
@@ -88,7 +92,7 @@ public final class PlaceTest {
         CHECK.due("command(0, min)", x.command(line, Integer.MIN_VALUE), -1);
         CHECK.due("command(0, max)", x.command(line, Integer.MAX_VALUE), -1);
         CHECK.due("command(-1, 0)", x.command(-1, 0), -1);
-        CHECK.due("command(1, 0)", x.command(1, 0), -1);
+        CHECK.due("command(2, 0)", x.command(2, 0), -1);
     }
 
     private static void clashEdges() {
@@ -176,6 +180,24 @@ public final class PlaceTest {
         CHECK.due("just above", x.clash(a, b), 0);
         x.place(b, -100000, -100000, -99961);
         CHECK.due("a little nearer", x.clash(a, b), 1);
+    }
+
+    private static void longTracksLeaveNothing() {
+        BarCutting x = new BarCutting();
+        int longest = Maker.shape(x, "AUBUCUDUEUF");
+        Maker.line(x, longest, 10, 1, 100, 100, 100, 100, 100, 100);
+        Maker.line(x, longest, 10, 1, 100, 100, 100, 100, 100, 100);
+        Maker.line(x, Maker.shape(x, "A"), 10, 1, 100);
+        Maker.line(x, 1, 10, 1, 100);
+        x.place(0, 0, 0, 0);
+        x.place(1, 0, 5, 0);
+        x.place(2, 0, 900, 0);
+        x.place(3, 0, 30, 0);
+        CHECK.due("two of six legs", x.clash(0, 1), 1);
+        CHECK.due("straight ones behind them", x.clash(2, 3), 0);
+        CHECK.due("six legs and a straight one", x.clash(0, 2), 0);
+        CHECK.due("a straight one and six legs", x.clash(2, 1), 0);
+        CHECK.due("the second leg", x.clash(3, 0), 1);
     }
 
     private static void clashesAgainstPoints() {
