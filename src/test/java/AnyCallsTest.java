@@ -1,6 +1,6 @@
 import java.util.Random;
 
-/** Runs of 512 calls with any arguments: none may throw, and the same calls give the same answers. */
+/** Runs of 512 calls and more with any arguments: none may throw, and the same calls answer the same. */
 public final class AnyCallsTest {
     private static final Check CHECK = new Check("AnyCallsTest");
     private static final int[] ODD = {Integer.MIN_VALUE, Integer.MIN_VALUE + 1, -2, -1, 0, 1, 2, 3, 4, 5, 6, 7, 8,
