@@ -27,6 +27,7 @@ public final class CuttingEdgesTest {
         kindToldFirst();
         rowWithTheLesserPiece();
         rowThatGoesOn();
+        barsByTheirFirstPieces();
         firstBarDecides();
         firstBarWithRoom();
         leastStockThatIsEnough();
@@ -309,6 +310,15 @@ public final class CuttingEdgesTest {
         last.does("run(8)").dueBars("10/9: 0 2; 10/9: 1");
         Run all = lengths("goes on to the end", 1, 1, 1, 1, 1, 1, 1, 1).does("stock(10, 7, 2)");
         all.does("run(8)").dueBars("10/7: 0 1 2 3 4 5 6; 10/7: 7");
+    }
+
+    /** Terms: "bars being in the order of their first pieces", whichever kind was told first. */
+    private static void barsByTheirFirstPieces() {
+        for (int nodes = 0; nodes <= 8; nodes += 8) {
+            Run run = lengths("bars being in the order of their first pieces", 3, 6, 4);
+            run.does("stock(10, 3, 1)", "stock(10, 4, 1)", "stock(10, 6, 1)");
+            run.does("run(" + nodes + ")").dueBars("10/6: 1; 10/4: 2; 10/3: 0");
+        }
     }
 
     /** Terms: "bars being in the order of their first pieces, .. bar by bar": the first bar that differs decides. */
