@@ -1,9 +1,5 @@
-import java.lang.reflect.Method;
-import java.lang.reflect.Modifier;
 import java.util.ArrayList;
-import java.util.HashMap;
 import java.util.List;
-import java.util.Map;
 
 /**
  * A new object and the calls on it, told as texts like "leg(0, 1, 200)"; a boolean counts 1 or 0. It
@@ -12,12 +8,11 @@ import java.util.Map;
 final class Run {
     static final int MOST_CALLS = 512;
     private static final long WRAP = 1L << 32;
-    private static final Map<String, Method> FACE = face();
 
     private final Check check;
     private final String sentence;
     private final List<String> calls = new ArrayList<>();
-    private final BarCutting x = new BarCutting();
+    private final Caller caller = new Caller(new BarCutting());
     private List<String> told;
 
     /** The sentence of the document that this run holds stands before each answer that is not due. */
@@ -75,7 +70,7 @@ final class Run {
         }
         calls.add(call);
         told = null;
-        return answer(call);
+        return caller.answer(call);
     }
 
     Run does(String... more) {
@@ -219,40 +214,5 @@ final class Run {
 
     private String name(String call) {
         return sentence + ": " + call;
-    }
-
-    private long answer(String call) {
-        int open = call.indexOf('(');
-        Method method = FACE.get(call.substring(0, open));
-        String inside = call.substring(open + 1, call.length() - 1).trim();
-        String[] words = inside.isEmpty() ? new String[0] : inside.split(", *");
-        Class<?>[] types = method.getParameterTypes();
-        if (words.length != types.length) {
-            throw new IllegalArgumentException(call);
-        }
-        Object[] given = new Object[words.length];
-        for (int i = 0; i < words.length; i++) {
-            if (types[i] == int.class) {
-                given[i] = Integer.valueOf(words[i]);
-            } else {
-                given[i] = Long.valueOf(words[i]);
-            }
-        }
-        try {
-            Object got = method.invoke(x, given);
-            return got instanceof Boolean ? ((Boolean) got ? 1 : 0) : ((Number) got).longValue();
-        } catch (ReflectiveOperationException thrown) {
-            throw new IllegalStateException(name(call) + " threw", thrown);
-        }
-    }
-
-    private static Map<String, Method> face() {
-        Map<String, Method> all = new HashMap<>();
-        for (Method method : BarCutting.class.getDeclaredMethods()) {
-            if (Modifier.isPublic(method.getModifiers())) {
-                all.put(method.getName(), method);
-            }
-        }
-        return all;
     }
 }
